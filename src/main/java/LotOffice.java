@@ -812,8 +812,7 @@ public final class LotOffice {
         private static final int TOO_MANY_ONES = 4;
 
         private final Tokens tokens = new Tokens();
-        private final Law unused = new Law();
-        private Law law = unused;
+        private Law law = new Law();
         int fault;
         int place;
         private int at;
@@ -1097,6 +1096,8 @@ public final class LotOffice {
         /** Who is there and no mere NAME. */
         final boolean[] counts = new boolean[MOST_MEN];
         private final int[] sons = new int[FATHERS];
+        /** How many of a PARISH are there, mere NAMES left out. */
+        final int[] inParish = new int[PARISHES];
         /** Who SERVES in the LOTS that were drawn since the look. */
         final boolean[] serving = new boolean[MOST_MEN];
 
@@ -1116,11 +1117,13 @@ public final class LotOffice {
             lookWho();
             lookBirths();
             Arrays.fill(sons, 0);
+            Arrays.fill(inParish, 0);
             for (int m = 0; m < men; m++) {
                 serving[m] = false;
                 counts[m] = born[m] && who[m] == m;
                 if (counts[m]) {
                     sons[father[m]]++;
+                    inParish[parish[m]]++;
                 }
             }
         }
@@ -1169,15 +1172,6 @@ public final class LotOffice {
                 brothers += k != m && counts[k] && serving[k] && father[k] == father[m] ? 1 : 0;
             }
             return brothers;
-        }
-
-        /** How many of a PARISH are there, mere NAMES left out. */
-        int menOf(int ofParish) {
-            int there = 0;
-            for (int m = 0; m < men; m++) {
-                there += counts[m] && parish[m] == ofParish ? 1 : 0;
-            }
-            return there;
         }
     }
 
@@ -1455,7 +1449,7 @@ public final class LotOffice {
             for (int week = 0; week < FIELD_WEEKS; week++) {
                 for (int p = 0; p < PARISHES; p++) {
                     int before = week == 0 ? 0 : goneBy[p][week - 1];
-                    int may = Math.max(0, people.menOf(p) - mostHands(p, week));
+                    int may = Math.max(0, people.inParish[p] - mostHands(p, week));
                     int more = Math.min(Math.min(may, roll.quota[p]) - before, tape.at(week) - allGone);
                     goneBy[p][week] = before + more;
                     allGone += more;

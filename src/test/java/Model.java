@@ -11,6 +11,8 @@ import java.util.TreeSet;
 /** The document once more, written as slowly and as plainly as it can be, to hold the class against. */
 final class Model {
     static final class Fault extends RuntimeException {
+        private static final long serialVersionUID = 1;
+
         final int kind;
         final int place;
 

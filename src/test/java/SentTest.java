@@ -251,6 +251,15 @@ public final class SentTest {
         y.next(1);
         Check.due("4 DAYS", y.appeal(0, 0), -1);
         Check.due("one", y.count(7), 1);
+        LotOffice w = office(4);
+        Check.law(w, "appeal 3;age 1 to 2;class 7 if serving > 0;x", 0);
+        Check.law(w, "class 7;send if sole;", 0);
+        w.lot(5, 2);
+        w.next(35);
+        Check.due("30 DAYS without a LINE", w.appeal(0, 0), 0);
+        Check.due("as of the law that was no FAULT", w.called(0, 35), 2);
+        w.next(1);
+        Check.due("31 DAYS without a LINE", w.appeal(0, 0), -1);
         LotOffice z = office(4);
         z.lot(0, 2);
         Check.law(z, "appeal 0;", 0);

@@ -19,6 +19,7 @@ public final class WildTest {
             String thrown = new WildTest(seed).run();
             Check.due("seed " + seed + " " + thrown, thrown.isEmpty(), true);
         }
+        aFullOffice();
         aCallThatThrowsChangesNothing();
         Check.close();
     }
@@ -110,6 +111,71 @@ public final class WildTest {
         } catch (NoSuchElementException e) {
             x.count(0);
         }
+    }
+
+    /** All that can be told is told, as often as it can be; the last man of all is asked for. */
+    private static void aFullOffice() {
+        LotOffice x = new LotOffice();
+        String cond = " if serving > 70 or not(height < 300 and age < 99)";
+        String law = "age 0 to 99;free" + cond + ";later 3000" + cond + ";class 8" + cond + ";send not" + cond + ";appeal 999;";
+        for (int i = 0; i < 8; i++) {
+            Check.due("law " + i, Check.law(x, law, i), 6);
+        }
+        for (int m = 0; m < 60; m++) {
+            Check.man(x, "zzzzzzzz", 7 - m % 8, 59, -60 + m % 70, 51);
+            x.exam(m, 7, 9);
+            for (int kind = 2; kind < 6; kind++) {
+                x.fact(m, kind, 1, 0, 3639);
+            }
+        }
+        for (int i = 0; i < 40; i++) {
+            x.birth(59, i - 31, 51);
+        }
+        for (int l = 0; l < 4; l++) {
+            x.lot(l * 10, 15);
+        }
+        x.next(30);
+        for (int l = 0; l < 4; l++) {
+            for (int a = 0; a < 60; a++) {
+                for (int b = 0; b < 60 && x.serves(l, a, 30) == a; b++) {
+                    x.send(l, a, b);
+                }
+            }
+        }
+        for (int i = 0; i < 40; i++) {
+            x.same(i, i + 1);
+        }
+        for (int i = 0; i < 60; i++) {
+            x.appeal(3, i);
+        }
+        int[] due = {30, 60, 4, 8, 240, 60, 60, 60, x.count(8), 0};
+        for (int what = 0; what < 10; what++) {
+            Check.due("count(" + what + ") of a full office", x.count(what), due[what]);
+        }
+        askAFullOffice(x);
+    }
+
+    private static void askAFullOffice(LotOffice x) {
+        Check.due("who", x.who(40, 30), 0);
+        Check.due("brothers", x.brothers(59, 30), 19);
+        Check.due("age", x.age(59, 3639, 30), 1);
+        int all = 0;
+        for (int m = 0; m < 60; m++) {
+            all += x.state(3, m, 29) == 5 ? 1 : 0;
+        }
+        Check.due("CALLED", x.called(3, 29), all);
+        Check.due("as many as are WANTED", all, 15);
+        Check.due("AS OF 30", x.called(3, 30), 15);
+        Check.due("none left", x.mended(3, 29, -1, true), 15);
+        Check.due("the last of them", x.mendedAt(14) >= 14, true);
+        Check.due("no more", x.mendedAt(15), -1);
+        Check.due("place", x.place(3, 59, 30) >= 0, true);
+        for (int p = 0; p < 8; p++) {
+            x.hands(p, 11, 60);
+        }
+        Check.tape(x, new int[12]);
+        Check.due("leaves", x.leaves(3, 30), 1);
+        Check.due("doubt", x.doubt(7, 30, 2), 60);
     }
 
     private static void aCallThatThrowsChangesNothing() {
