@@ -1043,9 +1043,10 @@ public final class LotOffice {
             return true;
         }
 
+        /** Of no row 0: that is a place in every array that is asked by it. */
         int get(int row, int column) {
             if (row < 0 || row >= size || column < 0 || column >= WIDTH) {
-                return NONE;
+                return 0;
             }
             return cells[row * WIDTH + column];
         }
