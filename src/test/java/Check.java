@@ -2,10 +2,19 @@ import java.util.NoSuchElementException;
 
 /** What the tests share: a count of checks, and tapes told as texts or bytes. */
 final class Check {
+    static final int LEAST = Integer.MIN_VALUE;
+    static final int GREATEST = Integer.MAX_VALUE;
+
     private static int passed;
     private static int failed;
+    private static String sentence = "";
 
     private Check() { }
+
+    /** The sentence of the document that the checks from here on hold the class to. */
+    static void sentence(String words) {
+        sentence = "'" + words + "': ";
+    }
 
     static void due(String what, long got, long want) {
         if (got == want) {
@@ -13,7 +22,7 @@ final class Check {
             return;
         }
         failed++;
-        System.out.println(what + ": answered " + got + ", due is " + want);
+        System.out.println(sentence + what + ": answered " + got + ", due is " + want);
     }
 
     static void due(String what, boolean got, boolean want) {
@@ -77,9 +86,30 @@ final class Check {
         return m;
     }
 
+    /** So many men of AGE 21 in a PARISH, each of another week of BIRTH than the one ahead, and of a FATHER of his own. */
+    static void men(LotOffice x, int n, int parish) {
+        for (int i = 0; i < n; i++) {
+            man(x, "a", parish, i % 60, -22, 1 + i % 51);
+        }
+    }
+
+    static LotOffice office(int men) {
+        LotOffice x = new LotOffice();
+        men(x, men, 0);
+        return x;
+    }
+
     static int law(LotOffice x, String text, int from) {
         tape(x, text);
         return x.law(from);
+    }
+
+    static int[] like(int n, int value) {
+        int[] all = new int[n];
+        for (int i = 0; i < n; i++) {
+            all[i] = value;
+        }
+        return all;
     }
 
     static int[] upTo(int n) {
