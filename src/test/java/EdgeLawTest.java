@@ -321,7 +321,7 @@ public final class EdgeLawTest {
         fault("age 0 to 99 ", "99;", 1);
     }
 
-    /** Which of AGES 0 to 69 are of 'age'. */
+    /** Which of AGES 0 to 69 are of 'age'; by no law at all, if there is no text. */
     private static void areOfAge(String text, int from, int to) {
         for (int half = 0; half < 2; half++) {
             LotOffice x = new LotOffice();
@@ -329,7 +329,9 @@ public final class EdgeLawTest {
                 Check.man(x, "a", 0, 0, half * 35 + i - 60, 0);
             }
             int day = 9 * 364;
-            Check.law(x, text, 0);
+            if (text != null) {
+                Check.law(x, text, 0);
+            }
             x.lot(day, 60);
             for (int m = 0; m < 35; m++) {
                 int age = 69 - half * 35 - m;
@@ -340,6 +342,7 @@ public final class EdgeLawTest {
 
     private static void whoIsOfAge() {
         Check.sentence("(0 to 99, the second not less; 20 to 25 without it)");
+        areOfAge(null, 20, 25);
         areOfAge("", 20, 25);
         areOfAge("class 1;", 20, 25);
         areOfAge("age 0 to 99;", 0, 69);
@@ -421,10 +424,12 @@ public final class EdgeLawTest {
         fault("appeal 1", "", 1);
     }
 
-    /** An APPEAL can be told so many DAYS behind the LOT's DAY and not a DAY later. */
+    /** An APPEAL can be told so many DAYS behind the LOT's DAY and not a DAY later; by no law at all, if there is no text. */
     private static void mayAppeal(String text, int days) {
         LotOffice x = Check.office(2);
-        Check.law(x, text, 7);
+        if (text != null) {
+            Check.law(x, text, 7);
+        }
         x.lot(7, 1);
         x.next(6);
         Check.due("ahead of the LOT's DAY by '" + text + "'", x.appeal(0, 0), -1);
@@ -437,6 +442,7 @@ public final class EdgeLawTest {
 
     private static void howLateAnAppealMayBe() {
         Check.sentence("'appeal' NUMBER ; (DAYS, 0 to 999; 30 without it)");
+        mayAppeal(null, 30);
         mayAppeal("", 30);
         mayAppeal("class 1;", 30);
         mayAppeal("appeal 0;", 0);
@@ -568,6 +574,9 @@ public final class EdgeLawTest {
         holds(odd + " and " + odd + " and " + odd + " and " + odd + " and " + even, false);
         holds(even + " or " + even + " or " + even + " or " + even + " or " + odd, true);
         holds(even + " or " + even + " or " + even + " or " + even + " or " + even, false);
+        holds(odd + " or " + even + " or " + even + " or " + even + " or " + even, true);
+        holds(even + " and " + odd + " and " + odd + " and " + odd + " and " + odd, false);
+        holds(even + " and " + odd + " or " + odd + " and " + odd + " or " + even, true);
     }
 
     private static void twelveWithin() {
