@@ -32,7 +32,10 @@ public final class EdgeLawTest {
         condsThatCanCome();
         condsThatCannot();
         signsAreAsked();
+        twentyLinesAreAsked();
+        aFaultTellsNone();
         sixtyOnes();
+        sixtyOnesInEachText();
         sixtyOnesInLines();
         sixtyOnesAreAsked();
         twelveWithin();
@@ -46,6 +49,7 @@ public final class EdgeLawTest {
         askedOnTheLotsDay();
         soleAndBrothers();
         servingInLesserLots();
+        servingOfSixtyBrothers();
         theFirstLineThatHolds();
         withoutALine();
         Check.close();
@@ -299,6 +303,51 @@ public final class EdgeLawTest {
         fault(nineteen + "class ", "9;free;", 2);
     }
 
+    private static void twentyLinesAreAsked() {
+        LotOffice x = Check.office(4);
+        x.lot(0, 2);
+        Check.law(x, "send;".repeat(20), 0);
+        Check.due("no LINE of the kinds that are asked", x.state(0, 0, 0), 5);
+        Check.due("no LINE", x.why(), -1);
+        Check.due("by the first of twenty", x.send(0, 0, 3), true);
+        Check.law(x, "free;".repeat(20), 0);
+        Check.due("free by the first of twenty", x.state(0, 0, 0), 2);
+        Check.due("which is 0", x.why(), 0);
+        Check.law(x, "free if hides;".repeat(20), 0);
+        Check.due("by none of twenty", x.state(0, 0, 0), 5);
+        Check.due("no LINE", x.why(), -1);
+        Check.due("everybody may send", x.send(0, 1, 2), true);
+    }
+
+    private static void aFaultTellsNone() {
+        Check.sentence("-1 - the place of a FAULT: none is told");
+        String[] faulty = {"free;fre;", "later 1;fre;", "class 1;fre;", "send not;fre;", "age 0 to 0;fre;", "age 99 to 99;fre;",
+            "age 100 to 100;", "age 22 to 21;", "appeal 0;fre;", "appeal 1000;",
+            "send;free;later 1;class 1;send not;fre;", "free if serving = 0 or sole;fre;", "send;".repeat(19) + "free;free;"};
+        String[] told = {"", "send;", "free if hides;"};
+        for (String fault : faulty) {
+            for (String text : told) {
+                LotOffice x = Check.office(3);
+                x.lot(0, 1);
+                Check.due("a FAULT", Check.law(x, fault, 0) < 0, true);
+                isAsWithoutALine(x, "behind '" + fault + "'");
+                Check.law(x, text, 0);
+                Check.due("one law", x.count(3), 1);
+                isAsWithoutALine(x, "behind '" + fault + "' and '" + text + "'");
+                Check.due("may send", x.send(0, 0, 2), true);
+                x.next(30);
+                Check.due("an APPEAL on the last DAY", x.appeal(0, 0), 0);
+            }
+        }
+    }
+
+    private static void isAsWithoutALine(LotOffice x, String what) {
+        for (int m = 0; m < 3; m++) {
+            Check.due(what + ": STATE of " + m, x.state(0, m, 0), m == 0 ? 5 : 4);
+            Check.due(what + ": LINE of " + m, x.why(), -1);
+        }
+    }
+
     private static void agesOfALaw() {
         Check.sentence("'age' NUMBER 'to' NUMBER ; (0 to 99, the second not less)");
         lines("age 0 to 0;", 1);
@@ -313,6 +362,7 @@ public final class EdgeLawTest {
         fault("age 1 to ", "0;", 2);
         fault("age 0 ", "99;", 1);
         fault("age 0 to", ";", 1);
+        fault("age 0", ";", 1);
         fault("age ", ";", 1);
         fault("age ", "to 99;", 1);
         fault("age 0 ", "free 99;", 1);
@@ -553,6 +603,25 @@ public final class EdgeLawTest {
         lines(ahead + ";send not;class 1;", 3);
     }
 
+    private static void sixtyOnesInEachText() {
+        Check.sentence("No more than 60 ONES in a text");
+        LotOffice x = Check.office(1);
+        x.lot(0, 0);
+        String even = "not ".repeat(10) + "hides";
+        String odd = ELEVEN_NOTS + "hides";
+        String ahead = "free if " + (even + " or ").repeat(4);
+        for (int i = 0; i < 4; i++) {
+            for (int k = 0; k < 3; k++) {
+                Check.due("a 61st behind sixty, " + i, Check.law(x, "free if " + SIXTY_ONES + " or sole;", 0) < 0, true);
+                Check.due("its FAULT", x.fault(), 4);
+            }
+            Check.due("sixty in one text, " + i, Check.law(x, ahead + odd + " and not not not sole;", 0), 1);
+            Check.due("by all of them free, if any says so", x.state(0, 0, 0), 4);
+            Check.due("fewer in another one, " + i, Check.law(x, ahead + odd + ";", 0), 1);
+            Check.due("by the last of them free", x.state(0, 0, 0), 2);
+        }
+    }
+
     private static void sixtyOnesInLines() {
         String half = ELEVEN_NOTS + "sole or " + ELEVEN_NOTS + "sole or not not not not not sole;";
         String ahead = "free if " + half + "send if " + half;
@@ -768,6 +837,25 @@ public final class EdgeLawTest {
         Check.due("so that 1 is CALLED in LOT 2, and SENT 3", x.send(2, 1, 3), true);
         int[][] now = {{0, 0, 0, 0, 0}, {1, 0, 1, 1, 1}, {2, 1, 1, 2, 2}, {3, 2, 2, 2, 3}};
         isServing(x, "others SERVE in them", now);
+    }
+
+    /** 59 of sixty BROTHERS SERVE in LOT 0: for each of them 58 others do, for the last one 59. */
+    private static void servingOfSixtyBrothers() {
+        LotOffice x = new LotOffice();
+        for (int m = 0; m < 60; m++) {
+            Check.man(x, "a", 0, 59, -21, 0);
+        }
+        Check.law(x, "class 0 if serving = 59;class 1 if serving = 58;class 2 if serving > 0;class 3;", 0);
+        x.lot(0, 59);
+        x.lot(0, 1);
+        int[] men = {0, 58, 59};
+        int[] due = {1, 1, 0};
+        for (int i = 0; i < 3; i++) {
+            x.state(1, men[i], 0);
+            Check.due("serving of " + men[i], x.why(), due[i]);
+            x.state(0, men[i], 0);
+            Check.due("in the first LOT of " + men[i], x.why(), 3);
+        }
     }
 
     private static void isServing(LotOffice x, String what, int[][] due) {

@@ -80,6 +80,12 @@ public final class EdgeLotTest {
     }
 
     private static void daysOfLotsLater() {
+        LotOffice y = new LotOffice();
+        Check.due("the first", y.lot(10, 0), 0);
+        Check.due("the second ahead of the first, on TODAY", y.lot(0, 0), -1);
+        Check.due("the second on the DAY ahead of the first", y.lot(9, 0), -1);
+        Check.due("one LOT", y.count(2), 1);
+        Check.due("the second on the first one's DAY", y.lot(10, 0), 1);
         LotOffice x = new LotOffice();
         x.lot(10, 0);
         x.next(20);
